@@ -532,41 +532,35 @@ public final class FarBanks {
 
     /** The frames of calls, the latest one last. */
     private static final class Frames {
-        private final Row windows = new Row(MOST_FRAMES);
-        private final Row banks = new Row(MOST_FRAMES);
-        private final Row places = new Row(MOST_FRAMES);
+        private static final int WINDOW = 0;
+        private static final int BANK = 1;
+        private static final int PLACE = 2;
+        private static final int PARTS = 3;
+
+        private final Row parts = new Row(MOST_FRAMES * PARTS);
         private int size;
 
         void copyFrom(Frames other) {
-            windows.copyFrom(other.windows);
-            banks.copyFrom(other.banks);
-            places.copyFrom(other.places);
+            parts.copyFrom(other.parts);
             size = other.size;
         }
 
         void add(int window, int bank, int place) {
-            windows.write(size, window);
-            banks.write(size, bank);
-            places.write(size, place);
+            int start = size * PARTS;
+            parts.write(start + WINDOW, window);
+            parts.write(start + BANK, bank);
+            parts.write(start + PLACE, place);
             size++;
         }
 
         int tell(int rank, int what) {
-            int index = size - 1 - rank;
-            switch (what) {
-                case 0:
-                    return windows.read(index);
-                case 1:
-                    return banks.read(index);
-                default:
-                    return places.read(index);
-            }
+            return parts.read((size - 1 - rank) * PARTS + what);
         }
 
         int howManyBackTo(int bank) {
             int many = 0;
-            for (int index = 0; index < size; index++) {
-                if (banks.read(index) == bank) {
+            for (int rank = 0; rank < size; rank++) {
+                if (tell(rank, BANK) == bank) {
                     many++;
                 }
             }
@@ -576,36 +570,30 @@ public final class FarBanks {
 
     /** The latest steps, and how many there were in all. */
     private static final class Trail {
-        private final Row addresses = new Row(KEPT_STEPS);
-        private final Row banks = new Row(KEPT_STEPS);
-        private final Row orders = new Row(KEPT_STEPS);
+        private static final int ADDRESS = 0;
+        private static final int BANK = 1;
+        private static final int ORDER = 2;
+        private static final int PARTS = 3;
+
+        private final Row parts = new Row(KEPT_STEPS * PARTS);
         private int total;
 
         void copyFrom(Trail other) {
-            addresses.copyFrom(other.addresses);
-            banks.copyFrom(other.banks);
-            orders.copyFrom(other.orders);
+            parts.copyFrom(other.parts);
             total = other.total;
         }
 
+        // A step comes into the place of the one that was 12 steps ahead of it.
         void add(int address, int bank, int order) {
-            int index = total % KEPT_STEPS;
-            addresses.write(index, address);
-            banks.write(index, bank);
-            orders.write(index, order);
+            int start = total % KEPT_STEPS * PARTS;
+            parts.write(start + ADDRESS, address);
+            parts.write(start + BANK, bank);
+            parts.write(start + ORDER, order);
             total++;
         }
 
         int tell(int rank, int what) {
-            int index = (total - 1 - rank) % KEPT_STEPS;
-            switch (what) {
-                case 0:
-                    return addresses.read(index);
-                case 1:
-                    return banks.read(index);
-                default:
-                    return orders.read(index);
-            }
+            return parts.read((total - 1 - rank) % KEPT_STEPS * PARTS + what);
         }
     }
 
@@ -740,8 +728,8 @@ public final class FarBanks {
         }
 
         private void comeBack() {
-            banks.shown.write(frames.tell(0, 0), frames.tell(0, 1));
-            place = frames.tell(0, 2);
+            banks.shown.write(frames.tell(0, Frames.WINDOW), frames.tell(0, Frames.BANK));
+            place = frames.tell(0, Frames.PLACE);
             frames.size--;
         }
     }

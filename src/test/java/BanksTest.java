@@ -136,6 +136,7 @@ final class BanksTest {
         CHECK.due("copyBank(0, 0)", x.copyBank(0, 0), FarBanks.NONE);
         CHECK.due("copyBank(2, 7)", x.copyBank(2, 7), FarBanks.NONE);
         CHECK.due("copyBank(2, 0)", x.copyBank(2, 0), 2);
+        CHECK.due("cell(0, 0)", x.cell(0, 0), 0);
         CHECK.due("cell(0, 12)", x.cell(0, 12), 3);
         CHECK.due("undo()", x.undo(), 3);
         CHECK.due("cell(0, 11)", x.cell(0, 11), 2);

@@ -6,6 +6,7 @@ final class HistoryTest {
         undo();
         undoOfEachAct();
         wholeState();
+        rowsUsedAgain();
         keep();
         restore();
         CHECK.close();
@@ -116,6 +117,53 @@ final class HistoryTest {
         CHECK.due("restore()", x.restore(), 1);
         tellsBusy(x);
         CHECK.due("cell(0, 13)", x.cell(0, 13), 0);
+    }
+
+    private static void rowsUsedAgain() {
+        CHECK.promise("Promise 12");
+        FarBanks x = busy();
+        x.begin(48);
+        x.show(3, 4);
+        CHECK.code(x, 4, 0, "store 50;store 33;halt");
+        CHECK.due("run(99)", x.run(99), 3);
+        CHECK.due("bank(4, 4)", x.bank(4, 4), 1);
+        CHECK.due("refused", x.count(7), 2);
+        CHECK.due("undo() of run", x.undo(), 3);
+        CHECK.due("frames", x.count(2), 0);
+        CHECK.due("calls", x.count(5), 2);
+        CHECK.due("written", x.count(6), 1);
+        CHECK.due("refused", x.count(7), 1);
+        CHECK.due("bank(4, 4)", x.bank(4, 4), 0);
+        CHECK.due("latest(0, 2)", x.latest(0, 2), 902);
+        CHECK.due("count(3)", x.count(3), 0);
+        FarBanks y = busy();
+        CHECK.code(y, 3, 0, "call 3 1;call 3 2;plus 1;store 34;store 13;jump 50");
+        y.keep();
+        y.begin(48);
+        y.run(40);
+        CHECK.due("frame(1, 0)", y.frame(1, 0), 3);
+        CHECK.due("calls", y.count(5), 4);
+        CHECK.due("undo() of run", y.undo(), 3);
+        CHECK.due("undo() of begin", y.undo(), 2);
+        tellsBusyRows(y);
+        y.begin(48);
+        y.run(40);
+        CHECK.due("restore()", y.restore(), 1);
+        tellsBusyRows(y);
+    }
+
+    private static void tellsBusyRows(FarBanks x) {
+        tellsBusy(x);
+        CHECK.due("frame(0, 0)", x.frame(0, 0), 0);
+        CHECK.due("frame(1, 0)", x.frame(1, 0), 0);
+        int[] addresses = {0, 3, 3, 2, 1, 0};
+        int[] banks = {6, 5, 0, 0, 0, 0};
+        int[] orders = {902, 760, 753, 332, 312, 107};
+        for (int rank = 0; rank < 6; rank++) {
+            CHECK.due("latest(" + rank + ", 0)", x.latest(rank, 0), addresses[rank]);
+            CHECK.due("latest(" + rank + ", 1)", x.latest(rank, 1), banks[rank]);
+            CHECK.due("latest(" + rank + ", 2)", x.latest(rank, 2), orders[rank]);
+        }
     }
 
     private static void keep() {

@@ -16,6 +16,8 @@ final class RunningTest {
         reasons();
         reasonsAtTheEnd();
         selfChangingCode();
+        eachOrderAlone();
+        mostSteps();
         CHECK.close();
     }
 
@@ -191,7 +193,7 @@ final class RunningTest {
         CHECK.code(x, 5, 10, "call 2 0");
         CHECK.code(x, 2, 0, "show 2 3");
         CHECK.code(x, 3, 1, "back");
-        x.put(5, 11, 800);
+        x.put(5, 11, 877);
         x.begin(43);
         int[][] due = {{41, 6, 1}, {42, 5, 1}, {32, 2, 2}, {33, 3, 2}, {43, 5, 1}, {44, 4, 0}};
         for (int[] row : due) {
@@ -202,6 +204,7 @@ final class RunningTest {
         }
         CHECK.due("calls", x.count(5), 2);
         CHECK.due("reason", x.count(3), 0);
+        CHECK.due("number: what is left of a back is nothing", x.count(0), 0);
     }
 
     private static void callAtTheEnd() {
@@ -298,6 +301,7 @@ final class RunningTest {
         atTheEnd(500, false, 0, 0);
         atTheEnd(637, false, 6, 64);
         atTheEnd(709, false, 0, 57);
+        atTheEnd(779, false, 0, 57);
         atTheEnd(800, false, 5, 64);
         atTheEnd(900, false, 6, 64);
         FarBanks x = new FarBanks();
@@ -306,6 +310,65 @@ final class RunningTest {
         x.begin(62);
         CHECK.due("run(9) of a zero at 63 that is not taken", x.run(9), 2);
         CHECK.due("reason", x.count(3), 6);
+    }
+
+    private static void orderAlone(int order, int number, int place, int window, int bank) {
+        FarBanks x = new FarBanks();
+        x.put(1, 0, 100 + 5);
+        x.put(1, 1, order);
+        x.put(2, 1, 30);
+        x.begin(16);
+        CHECK.due("run(2) of " + order, x.run(2), 2);
+        CHECK.due("reason of " + order, x.count(3), 0);
+        CHECK.due("number of " + order, x.count(0), number);
+        CHECK.due("place of " + order, x.count(1), place);
+        for (int other = 0; other < 4; other++) {
+            CHECK.due("window(" + other + ") of " + order, x.window(other), other == window ? bank : other);
+        }
+        boolean isStore = order / 100 == 3;
+        CHECK.due("written of " + order, x.count(6), isStore ? 1 : 0);
+        CHECK.due("cell(2, 1) of " + order, x.cell(2, 1), order == 333 ? 5 : 30);
+        CHECK.due("calls of " + order, x.count(5), order / 100 == 7 ? 1 : 0);
+        CHECK.due("frames of " + order, x.count(2), order / 100 == 7 ? 1 : 0);
+    }
+
+    private static void eachOrderAlone() {
+        CHECK.promise("Promise 8");
+        orderAlone(133, 33, 18, 0, 0);
+        orderAlone(233, 35, 18, 0, 0);
+        orderAlone(333, 5, 18, 0, 0);
+        orderAlone(433, 5, 33, 0, 0);
+        orderAlone(533, 5, 18, 0, 0);
+        orderAlone(607, 5, 18, 0, 7);
+        orderAlone(610, 5, 18, 1, 0);
+        orderAlone(627, 5, 18, 2, 7);
+        orderAlone(631, 5, 18, 3, 1);
+        orderAlone(637, 5, 18, 3, 7);
+        orderAlone(739, 5, 25, 1, 3);
+        orderAlone(779, 5, 25, 1, 7);
+        orderAlone(933, 38, 18, 0, 0);
+        FarBanks x = new FarBanks();
+        x.put(0, 0, 537);
+        x.run(1);
+        CHECK.due("place of a zero that is taken", x.count(1), 37);
+        CHECK.due("window(3) of a zero", x.window(3), 3);
+    }
+
+    // Only an object that is used for longer than the document promises comes so far.
+    private static void mostSteps() {
+        CHECK.promise("Promise 8");
+        FarBanks x = new FarBanks();
+        x.put(0, 0, 400);
+        for (int run = 0; run < 1000; run++) {
+            CHECK.due("run(999)", x.run(999), 999);
+        }
+        CHECK.due("run(998)", x.run(998), 998);
+        CHECK.due("run(2)", x.run(2), FarBanks.FULL);
+        CHECK.due("run(1)", x.run(1), 1);
+        CHECK.due("count(4)", x.count(4), 999999);
+        CHECK.due("run(1)", x.run(1), FarBanks.FULL);
+        CHECK.due("run(1000)", x.run(1000), FarBanks.BAD_VALUE);
+        CHECK.due("ifRun(1, 0)", x.ifRun(1, 0), 1);
     }
 
     private static void selfChangingCode() {

@@ -53,6 +53,8 @@ final class TextsTest {
             CHECK.due("cell(1, 4) of " + texts[index], x.cell(1, 4), 0);
         }
         FarBanks y = new FarBanks();
+        y.put(4, 9, 1);
+        y.put(4, 14, 2);
         y.lock(4, true);
         CHECK.code(y, 4, 10, "plus 1;plus 2;plus 3;show 1 2");
         for (int bank = 0; bank < 8; bank++) {
@@ -60,6 +62,8 @@ final class TextsTest {
             CHECK.due("cell(" + bank + ", 12)", y.cell(bank, 12), 903);
             CHECK.due("cell(" + bank + ", 13)", y.cell(bank, 13), 612);
         }
+        CHECK.due("cell(4, 9) ahead of the code", y.cell(4, 9), 1);
+        CHECK.due("cell(4, 14) behind the code", y.cell(4, 14), 2);
         CHECK.due("count(6)", y.count(6), 0);
         CHECK.due("count(7)", y.count(7), 0);
     }

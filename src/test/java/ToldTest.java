@@ -13,6 +13,7 @@ final class ToldTest {
         next();
         ifRun();
         ifRunCells();
+        ifRunFirstCell();
         backIn();
         backInLong();
         count();
@@ -246,6 +247,14 @@ final class ToldTest {
         CHECK.due("ifRun(9, 4) with refused writes", x.ifRun(9, 4), 1);
         x.put(0, 12, 1);
         CHECK.due("ifRun(9, 4) with the same number", x.ifRun(9, 4), 0);
+    }
+
+    private static void ifRunFirstCell() {
+        CHECK.promise("Promise 22");
+        FarBanks x = new FarBanks();
+        CHECK.code(x, 0, 0, "load 1;store 0;store 31");
+        CHECK.due("ifRun(2, 4)", x.ifRun(2, 4), 1);
+        CHECK.due("ifRun(3, 4)", x.ifRun(3, 4), 2);
     }
 
     private static void backIn() {

@@ -59,7 +59,6 @@ public final class FarBanks {
         history = new History();
         text = new Text();
         code = new Code();
-        hasSnapshot = false;
     }
 
     // ---- banks, windows
@@ -809,7 +808,6 @@ public final class FarBanks {
         void readFrom(Text text) {
             size = 0;
             position = 0;
-            isSound = true;
             boolean isMore = true;
             while (isMore && size < TEXT_LENGTH) {
                 orders.write(size, readOrder(text));

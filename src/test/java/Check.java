@@ -2,7 +2,7 @@ import java.util.ArrayList;
 import java.util.List;
 
 /** Compares answers with those that are due, and tells the ones that differ. */
-final class Check {
+class Check {
     private final List<String> wrong = new ArrayList<>();
     private int compared = 0;
     private String promise = "";
@@ -23,6 +23,10 @@ final class Check {
         if (!does) {
             wrong.add(promise + ": " + what);
         }
+    }
+
+    int compared() {
+        return compared;
     }
 
     void typeText(FarBanks x, String text) {

@@ -270,6 +270,12 @@ final class ActsSentences {
         s.due("frame(0, 0)", y.frame(0, 0), FarBanks.NONE);
         s.due("bank(0, 3)", y.bank(0, 3), 0);
         s.due("run(1)", y.run(1), 1);
+        for (int reason = 1; reason <= 6; reason++) {
+            FarBanks stopped = Told.stopped(reason);
+            stopped.begin(8);
+            s.due("reason behind the reason " + reason, stopped.count(3), 0);
+            s.due("frames behind the reason " + reason, stopped.count(2), 0);
+        }
         s.says("banks, windows, the latest steps and all that is counted stay.");
         FarBanks z = Told.busy();
         FarBanks same = Told.busy();
@@ -335,6 +341,9 @@ final class ActsSentences {
         s.due("run(0)", x.run(0), FarBanks.BAD_VALUE);
         s.due("run(1000)", x.run(1000), FarBanks.BAD_VALUE);
         s.says("NOT_POSSIBLE if it has stopped;");
+        for (int reason = 1; reason <= 6; reason++) {
+            s.due("run(1) behind the reason " + reason, Told.stopped(reason).run(1), FarBanks.NOT_POSSIBLE);
+        }
         s.due("run(1)", x.run(1), FarBanks.NOT_POSSIBLE);
         s.due("run(999)", x.run(999), FarBanks.NOT_POSSIBLE);
         s.says("FULL if more than 999999 steps could have been taken so far then.");
@@ -434,7 +443,7 @@ final class ActsSentences {
         FarBanks x = new FarBanks();
         String sixteen = "halt" + ";back".repeat(15);
         for (int orders = 1; orders <= 16; orders++) {
-            s.code(new FarBanks(), 0, 0, sixteen.substring(0, orders * 5 - 1));
+            s.code(new FarBanks(), 0, 16 - orders, sixteen.substring(0, orders * 5 - 1));
         }
         s.says("UNKNOWN (bank or cell);");
         s.due("assemble(8, 0)", x.assemble(8, 0), FarBanks.UNKNOWN);

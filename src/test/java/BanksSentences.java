@@ -318,6 +318,9 @@ final class BanksSentences {
         fault("jump 64", 6);
         fault("jump 630", 7);
         fault("jump 70", 6);
+        fault("show 4 0", 5);
+        fault("show 0 8", 7);
+        fault("call 8 0", 5);
         fault("load 990", 7);
         fault("load 123", 7);
         fault("show 30 0", 6);

@@ -32,26 +32,31 @@ final class HistorySentences {
             s.due("count(10)", x.count(10), number);
         }
         undoesAll(x, 0);
+        for (int number = 1; number <= 9; number++) {
+            x.put(0, 0, number);
+        }
+        s.due("count(10) of nine acts", x.count(10), 4);
         s.says("when one more is recorded, the oldest one is dropped;");
-        for (int number = 1; number <= 5; number++) {
+        undoesAll(x, 5);
+        for (int number = 6; number <= 10; number++) {
             x.put(0, 0, number);
         }
-        s.due("count(10) of five", x.count(10), 4);
-        undoesAll(x, 1);
-        for (int number = 2; number <= 14; number++) {
+        s.due("count(10) of five acts", x.count(10), 4);
+        undoesAll(x, 6);
+        for (int number = 7; number <= 24; number++) {
             x.put(0, 0, number);
         }
-        undoesAll(x, 10);
+        undoesAll(x, 20);
         s.says("undo() removes and restores the latest one.");
-        for (int number = 20; number <= 23; number++) {
+        for (int number = 31; number <= 34; number++) {
             x.put(0, 0, number);
         }
         s.due("undo()", x.undo(), 3);
-        s.due("cell(0, 0)", x.cell(0, 0), 22);
+        s.due("cell(0, 0)", x.cell(0, 0), 33);
         s.due("count(10)", x.count(10), 3);
-        x.put(0, 0, 23);
-        x.put(0, 0, 24);
-        undoesAll(x, 20);
+        x.put(0, 0, 34);
+        x.put(0, 0, 35);
+        undoesAll(x, 31);
     }
 
     /** The numbers were put one behind the other, so that the states have them in a row, too. */
@@ -143,7 +148,7 @@ final class HistorySentences {
         comesBack("copyBank", x -> x.copyBank(6, 1));
         comesBack("set", x -> x.set(0));
         comesBack("begin", x -> x.begin(63));
-        comesBack("a run with a store, two backs and a store that is refused", x -> x.run(9));
+        comesBack("a run with a store, two backs, a call and a store that is refused", x -> x.run(9));
         comesBack("restore", FarBanks::restore);
         FarBanks y = Told.busy("abc");
         y.put(6, 3, 1);
@@ -250,23 +255,26 @@ final class HistorySentences {
         s.due("count(10) behind " + call, x.count(10), y.count(10));
         s.due("count(11) behind " + call, x.count(11), y.count(11));
         s.due("differences behind " + call, Told.differences(x, y), 0);
-        s.due("assemble behind " + call, x.assemble(1, 1), y.assemble(1, 1));
-        for (int left = y.count(10); left >= 0; left--) {
-            s.due("undo() behind " + call, x.undo(), y.undo());
+        // Nothing was asked of this one yet.
+        FarBanks z = made.get();
+        s.due("assemble behind " + call, x.assemble(1, 1), z.assemble(1, 1));
+        s.due("cell(1, 1) behind assemble and " + call, x.cell(1, 1), z.cell(1, 1));
+        for (int undone = 0; undone <= 4; undone++) {
+            s.due("undo() behind " + call, x.undo(), z.undo());
         }
-        s.due("differences behind undo() and " + call, Told.differences(x, y), 0);
-        s.due("restore() behind " + call, x.restore(), y.restore());
-        s.due("steps behind restore() and " + call, x.count(4), y.count(4));
-        s.due("locked behind restore() and " + call, x.count(8), y.count(8));
+        s.due("differences behind undo() and " + call, Told.differences(x, z), 0);
+        s.due("restore() behind " + call, x.restore(), made.get().restore());
     }
 
     private void refusedCalls() {
         s.says("A call that returns an error or NONE changes nothing.");
         refusedActs();
+        refusedRuns();
         refusedQuestions();
         String fault = "plus 5;halt;";
         refused(() -> Told.busy(fault), "assemble of a fault", x -> x.assemble(0, 0), -112);
-        refused(() -> Told.busy("x".repeat(80)), "type into a full text", x -> x.type('x'), FarBanks.FULL);
+        String full = "load 10;".repeat(9) + "store 10";
+        refused(() -> Told.busy(full), "type into a full text", x -> x.type('x'), FarBanks.FULL);
         refused(FarBanks::new, "undo() at first", FarBanks::undo, FarBanks.NONE);
         refused(FarBanks::new, "restore() at first", FarBanks::restore, FarBanks.NONE);
         refused(HistorySentences::stopped, "run", x -> x.run(1), FarBanks.NOT_POSSIBLE);
@@ -288,24 +296,41 @@ final class HistorySentences {
 
     private void refusedActs() {
         refused(HistorySentences::busy, "put(8, 0, 1)", x -> x.put(8, 0, 1), FarBanks.UNKNOWN);
+        refused(HistorySentences::busy, "put(-1, 0, 1)", x -> x.put(-1, 0, 1), FarBanks.UNKNOWN);
         refused(HistorySentences::busy, "put(0, 16, 1)", x -> x.put(0, 16, 1), FarBanks.UNKNOWN);
+        refused(HistorySentences::busy, "put(0, -1, 1)", x -> x.put(0, -1, 1), FarBanks.UNKNOWN);
         refused(HistorySentences::busy, "put(0, 0, 1000)", x -> x.put(0, 0, 1000), FarBanks.BAD_VALUE);
+        refused(HistorySentences::busy, "put(0, 0, -1)", x -> x.put(0, 0, -1), FarBanks.BAD_VALUE);
         refused(HistorySentences::busy, "put(0, 0, 107)", x -> x.put(0, 0, 107), FarBanks.NONE);
         refused(HistorySentences::busy, "lock(8, true)", x -> x.lock(8, true), FarBanks.UNKNOWN);
+        refused(HistorySentences::busy, "lock(-1, true)", x -> x.lock(-1, true), FarBanks.UNKNOWN);
         refused(HistorySentences::busy, "lock(2, true)", x -> x.lock(2, true), FarBanks.NONE);
         refused(HistorySentences::busy, "show(4, 0)", x -> x.show(4, 0), FarBanks.UNKNOWN);
+        refused(HistorySentences::busy, "show(-1, 0)", x -> x.show(-1, 0), FarBanks.UNKNOWN);
         refused(HistorySentences::busy, "show(0, 8)", x -> x.show(0, 8), FarBanks.UNKNOWN);
+        refused(HistorySentences::busy, "show(0, -1)", x -> x.show(0, -1), FarBanks.UNKNOWN);
         refused(HistorySentences::busy, "show(1, 4)", x -> x.show(1, 4), FarBanks.NONE);
         refused(HistorySentences::busy, "copyBank(8, 0)", x -> x.copyBank(8, 0), FarBanks.UNKNOWN);
+        refused(HistorySentences::busy, "copyBank(-1, 0)", x -> x.copyBank(-1, 0), FarBanks.UNKNOWN);
         refused(HistorySentences::busy, "copyBank(0, 8)", x -> x.copyBank(0, 8), FarBanks.UNKNOWN);
+        refused(HistorySentences::busy, "copyBank(0, -1)", x -> x.copyBank(0, -1), FarBanks.UNKNOWN);
         refused(HistorySentences::busy, "copyBank(1, 3)", x -> x.copyBank(1, 3), FarBanks.NONE);
+        refused(HistorySentences::busy, "copyBank(0, 0)", x -> x.copyBank(0, 0), FarBanks.NONE);
         refused(HistorySentences::busy, "set(2)", x -> x.set(2), FarBanks.BAD_VALUE);
+        refused(HistorySentences::busy, "set(-1)", x -> x.set(-1), FarBanks.BAD_VALUE);
         refused(HistorySentences::busy, "set(1)", x -> x.set(1), FarBanks.NONE);
+    }
+
+    private void refusedRuns() {
         refused(HistorySentences::busy, "begin(64)", x -> x.begin(64), FarBanks.UNKNOWN);
+        refused(HistorySentences::busy, "begin(-1)", x -> x.begin(-1), FarBanks.UNKNOWN);
         refused(HistorySentences::busy, "run(0)", x -> x.run(0), FarBanks.BAD_VALUE);
+        refused(HistorySentences::busy, "run(-1)", x -> x.run(-1), FarBanks.BAD_VALUE);
         refused(HistorySentences::busy, "run(1000)", x -> x.run(1000), FarBanks.BAD_VALUE);
         refused(HistorySentences::busy, "assemble(8, 0)", x -> x.assemble(8, 0), FarBanks.UNKNOWN);
+        refused(HistorySentences::busy, "assemble(-1, 0)", x -> x.assemble(-1, 0), FarBanks.UNKNOWN);
         refused(HistorySentences::busy, "assemble(0, 16)", x -> x.assemble(0, 16), FarBanks.UNKNOWN);
+        refused(HistorySentences::busy, "assemble(0, -1)", x -> x.assemble(0, -1), FarBanks.UNKNOWN);
         refused(HistorySentences::busy, "assemble(0, 15)", x -> x.assemble(0, 15), FarBanks.FULL);
     }
 

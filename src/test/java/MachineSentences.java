@@ -316,7 +316,8 @@ final class MachineSentences {
     }
 
     private void backs() {
-        s.says("8 back: the latest frame goes; its window shows its bank again, and its place becomes that of the frame.");
+        s.says("8 back: the latest frame goes; its window shows its bank again, "
+            + "and its place becomes that of the frame.");
         FarBanks x = new FarBanks();
         x.put(0, 15, 743);
         x.put(4, 3, 752);
@@ -373,11 +374,12 @@ final class MachineSentences {
         }
     }
 
-    private void stops(String order, FarBanks x, int steps, int reason) {
+    private void stops(FarBanks x, int reason) {
         int number = x.count(0);
         int place = x.count(1);
-        int[] before = {x.count(2), x.count(5), x.count(6), x.count(7), x.ifRun(steps, 4)};
-        s.due("run(9) of " + order, x.run(9), steps);
+        int[] before = {x.count(2), x.count(5), x.count(6), x.count(7), x.ifRun(9, 4)};
+        String order = x.next(0) + " with the number " + number + " and " + before[0] + " frames";
+        s.due("run(9) of " + order, x.run(9), 1);
         s.due("reason of " + order, x.count(3), reason);
         s.due("number of " + order, x.count(0), number);
         s.due("place of " + order, x.count(1), place + 1);
@@ -391,7 +393,7 @@ final class MachineSentences {
         }
     }
 
-    private FarBanks at(int number, int order) {
+    private static FarBanks at(int number, int order) {
         FarBanks x = with(number, order);
         x.run(1);
         return x;
@@ -401,11 +403,11 @@ final class MachineSentences {
         s.says("It stops, and nothing of the order is done but for its place,");
         int[] orders = {264, 299, 364, 399, 464, 499, 564, 599, 640, 647, 608, 638, 699, 780, 799, 800, 899};
         for (int order : orders) {
-            stops("" + order, at(7, order), 1, order / 100 == 8 ? 5 : 3);
+            stops(at(7, order), order / 100 == 8 ? 5 : 3);
         }
-        stops("564 with 0", at(0, 564), 1, 3);
-        stops("770 with eight frames", withEightFrames(770), 1, 4);
-        stops("780 with eight frames", withEightFrames(780), 1, 3);
+        stops(at(0, 564), 3);
+        stops(withEightFrames(770), 4);
+        stops(withEightFrames(780), 3);
     }
 
     private void goesOn(int number, int order) {
@@ -419,40 +421,40 @@ final class MachineSentences {
         for (int kind = 200; kind <= 500; kind += 100) {
             goesOn(0, kind);
             goesOn(0, kind + 63);
-            stops("" + (kind + 64), at(0, kind + 64), 1, 3);
-            stops("" + (kind + 70), at(0, kind + 70), 1, 3);
-            stops("" + (kind + 99), at(0, kind + 99), 1, 3);
+            stops(at(0, kind + 64), 3);
+            stops(at(0, kind + 70), 3);
+            stops(at(0, kind + 99), 3);
         }
         goesOn(0, 164);
         goesOn(0, 199);
         goesOn(0, 999);
         s.says("(also of a zero that would not be taken),");
         goesOn(1, 563);
-        stops("564", at(1, 564), 1, 3);
-        stops("599", at(99, 599), 1, 3);
+        stops(at(1, 564), 3);
+        stops(at(99, 599), 3);
         s.says("a window above 3,");
         goesOn(0, 637);
         goesOn(0, 600);
-        stops("640", at(0, 640), 1, 3);
-        stops("690", at(0, 690), 1, 3);
+        stops(at(0, 640), 3);
+        stops(at(0, 690), 3);
         s.says("or a bank above 7");
         goesOn(0, 607);
-        stops("608", at(0, 608), 1, 3);
-        stops("609", at(0, 609), 1, 3);
-        stops("638", at(0, 638), 1, 3);
+        stops(at(0, 608), 3);
+        stops(at(0, 609), 3);
+        stops(at(0, 638), 3);
         goesOn(0, 779);
         goesOn(0, 709);
-        stops("780", at(0, 780), 1, 3);
-        stops("790", at(0, 790), 1, 3);
+        stops(at(0, 780), 3);
+        stops(at(0, 790), 3);
         s.says("(also of a call that would find 8 frames);");
-        stops("780 with eight frames", withEightFrames(780), 1, 3);
-        stops("799 with eight frames", withEightFrames(799), 1, 3);
+        stops(withEightFrames(780), 3);
+        stops(withEightFrames(799), 3);
     }
 
     private void tooManyFrames() {
         s.says("with 4 if a call finds 8 frames;");
-        stops("700 with eight frames", withEightFrames(700), 1, 4);
-        stops("779 with eight frames", withEightFrames(779), 1, 4);
+        stops(withEightFrames(700), 4);
+        stops(withEightFrames(779), 4);
         FarBanks x = withEightFrames(800);
         x.run(1);
         x.put(0, 1, 779);
@@ -463,8 +465,8 @@ final class MachineSentences {
 
     private void noFrame() {
         s.says("with 5 if back finds none.");
-        stops("800", at(0, 800), 1, 5);
-        stops("899", at(0, 899), 1, 5);
+        stops(at(0, 800), 5);
+        stops(at(0, 899), 5);
         FarBanks x = new FarBanks();
         x.put(0, 0, 701);
         x.put(0, 1, 800);
@@ -474,7 +476,7 @@ final class MachineSentences {
         s.due("reason behind the frame", x.count(3), 5);
     }
 
-    private FarBanks atTheEnd(int order) {
+    private static FarBanks atTheEnd(int order) {
         FarBanks x = new FarBanks();
         x.put(3, 15, order);
         x.begin(63);
@@ -582,10 +584,15 @@ final class MachineSentences {
         x.begin(1);
         s.due("run(1) of a machine begun anew", x.run(1), 1);
         stands("of a machine begun anew", x, 1, 2, 0);
-        FarBanks y = atTheEnd(900);
-        y.run(1);
-        s.due("run(1) out of the windows", y.run(1), FarBanks.NOT_POSSIBLE);
-        s.due("next(0) out of the windows", y.next(0), FarBanks.NONE);
+        for (int reason = 1; reason <= 6; reason++) {
+            FarBanks y = Told.stopped(reason);
+            int steps = y.count(4);
+            s.due("reason", y.count(3), reason);
+            s.due("run(1) behind the reason " + reason, y.run(1), FarBanks.NOT_POSSIBLE);
+            s.due("steps behind the reason " + reason, y.count(4), steps);
+            y.begin(20);
+            s.due("run(1) begun anew behind the reason " + reason, y.run(1), 1);
+        }
     }
 
     private void setting() {

@@ -152,7 +152,8 @@ final class ModelTest {
         }
         int bank = about(7);
         int cell = about(15);
-        due("assemble(" + bank + ", " + cell + ") of \"" + typed + "\"", x.assemble(bank, cell), y.assemble(bank, cell));
+        String typedText = "\"" + typed + "\"";
+        due("assemble(" + bank + ", " + cell + ") of " + typedText, x.assemble(bank, cell), y.assemble(bank, cell));
     }
 
     private String orderText() {

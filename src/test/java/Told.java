@@ -53,6 +53,19 @@ final class Told {
         return different;
     }
 
+    /** An object whose machine has stopped for a reason. */
+    static FarBanks stopped(int reason) {
+        int[] orders = {0, 0, 316, 464, 700, 800, 900};
+        int place = reason == 6 ? 63 : 0;
+        FarBanks x = new FarBanks();
+        x.lock(1, true);
+        x.set(1);
+        x.put(place / 16, place % 16, orders[reason]);
+        x.begin(place);
+        x.run(9);
+        return x;
+    }
+
     /** An object that runs; in its state every part is another one than at first, and its history is full. */
     static FarBanks busy() {
         FarBanks x = new FarBanks();
@@ -66,7 +79,8 @@ final class Told {
         x.put(6, 2, 320);
         x.put(6, 3, 800);
         x.put(5, 4, 800);
-        x.put(0, 4, 333);
+        x.put(0, 4, 755);
+        x.put(5, 5, 333);
         x.lock(2, true);
         x.run(7);
         x.keep();

@@ -153,11 +153,14 @@ final class ToldSentences {
         }
         s.due("bank(3, 1), of no window", x.bank(3, 1), 0);
         s.says("2 for its cells below 12 that are not 0,");
+        x.put(4, 11, 1);
+        x.put(6, 0, 1);
         for (int cell = 15; cell >= 0; cell--) {
             x.put(5, cell, 1);
             s.due("bank(5, 2) from the cell " + cell + " on", x.bank(5, 2), Math.max(12 - cell, 0));
         }
-        s.due("bank(4, 2)", x.bank(4, 2), 0);
+        s.due("bank(4, 2)", x.bank(4, 2), 1);
+        s.due("bank(3, 2)", x.bank(3, 2), 0);
         s.says("3 for frames that come back to it,");
         FarBanks y = new FarBanks();
         y.put(0, 0, 777);
@@ -167,6 +170,14 @@ final class ToldSentences {
         s.due("bank(0, 3)", y.bank(0, 3), 1);
         s.due("bank(7, 3)", y.bank(7, 3), 7);
         s.due("bank(1, 3)", y.bank(1, 3), 0);
+    }
+
+    private static FarBanks withStoreOf(int bank, boolean alone) {
+        FarBanks x = at(0, 332);
+        x.show(2, bank);
+        x.lock(bank, alone);
+        x.run(1);
+        return x;
     }
 
     private void bankAccounts() {
@@ -185,12 +196,15 @@ final class ToldSentences {
         s.due("bank(1, 4), also of its common part", x.bank(1, 4), 3);
         s.due("bank(3, 4), of its common part", x.bank(3, 4), 1);
         s.due("bank(2, 4), without a store", x.bank(2, 4), 0);
+        s.due("bank(7, 4)", withStoreOf(7, false).bank(7, 4), 1);
         s.says("5 for those refused by way of it so far");
         x.lock(1, true);
         x.begin(0);
         x.run(3);
         s.due("bank(1, 5)", x.bank(1, 5), 2);
         s.due("bank(1, 4) stays", x.bank(1, 4), 3);
+        s.due("bank(0, 5)", withStoreOf(0, true).bank(0, 5), 1);
+        s.due("bank(7, 5)", withStoreOf(7, true).bank(7, 5), 1);
         s.says("(it is the bank of the window, also for the common part)");
         x.run(3);
         s.due("bank(1, 5)", x.bank(1, 5), 3);
@@ -404,16 +418,15 @@ final class ToldSentences {
         s.says("BAD_VALUE;");
         s.range("next", 0, 2, FarBanks.BAD_VALUE, x::next);
         s.says("NONE if it has stopped.");
-        x.run(9);
-        for (int what = 0; what < 3; what++) {
-            s.due("next(" + what + ") out of the windows", x.next(what), FarBanks.NONE);
+        for (int reason = 1; reason <= 6; reason++) {
+            FarBanks y = Told.stopped(reason);
+            for (int what = 0; what < 3; what++) {
+                s.due("next(" + what + ") behind the reason " + reason, y.next(what), FarBanks.NONE);
+            }
+            s.due("next(3) behind the reason " + reason, y.next(3), FarBanks.BAD_VALUE);
+            y.begin(1);
+            s.due("next(0) of a machine begun anew", y.next(0), 0);
         }
-        s.due("next(3) out of the windows", x.next(3), FarBanks.BAD_VALUE);
-        FarBanks y = new FarBanks();
-        y.run(1);
-        s.due("next(0) behind a halt", y.next(0), FarBanks.NONE);
-        y.begin(1);
-        s.due("next(0) of a machine begun anew", y.next(0), 0);
     }
 
     private void ifRun() {
@@ -468,6 +481,16 @@ final class ToldSentences {
         x.lock(2, true);
         s.due("ifRun(9, 4) with refused writes", x.ifRun(9, 4), 0);
         s.due("ifRun(4, 4) with refused writes", x.ifRun(4, 4), 1);
+        FarBanks first = at(4, 300);
+        first.put(0, 0, 7);
+        s.due("ifRun(1, 4) of the first cell", first.ifRun(1, 4), 1);
+        FarBanks last = at(4, 363);
+        last.put(0, 15, 7);
+        s.due("ifRun(1, 4) of the last cell", last.ifRun(1, 4), 1);
+        FarBanks seven = at(4, 327);
+        seven.put(7, 11, 7);
+        seven.show(1, 7);
+        s.due("ifRun(1, 4) of the last cell ahead of the common part", seven.ifRun(1, 4), 1);
         s.says("those of the common part counted once");
         FarBanks y = new FarBanks();
         s.code(y, 0, 0, "load 1;store 12;store 28;store 63;store 27");
@@ -486,6 +509,9 @@ final class ToldSentences {
         s.due("ifRun(0, 0)", x.ifRun(0, 0), FarBanks.BAD_VALUE);
         s.due("ifRun(1000, 0)", x.ifRun(1000, 0), FarBanks.BAD_VALUE);
         s.says("NOT_POSSIBLE if it has stopped.");
+        for (int reason = 1; reason <= 6; reason++) {
+            s.due("ifRun(1, 0) behind " + reason, Told.stopped(reason).ifRun(1, 0), FarBanks.NOT_POSSIBLE);
+        }
         x.run(9);
         s.due("ifRun(1, 0)", x.ifRun(1, 0), FarBanks.NOT_POSSIBLE);
         s.due("ifRun(999, 4)", x.ifRun(999, 4), FarBanks.NOT_POSSIBLE);
@@ -550,6 +576,7 @@ final class ToldSentences {
         halts.run(999);
         halts.put(1, 4, 800);
         s.due("backIn() of a machine that has stopped", halts.backIn(), FarBanks.NONE);
+        s.due("backIn() behind a ninth call", Told.stopped(4).backIn(), FarBanks.NONE);
         FarBanks calls = at(0, 700);
         calls.run(1);
         s.due("backIn() with a ninth call ahead", calls.backIn(), FarBanks.NONE);
@@ -579,20 +606,15 @@ final class ToldSentences {
         s.due("count(1) at first", new FarBanks().count(1), 0);
         s.says("2 for its frames (how many),");
         s.due("count(2) at first", y.count(2), 0);
-        s.due("count(2) at most", withEightFrames().count(2), 8);
+        FarBanks eight = withEightFrames();
+        s.due("count(2) at most", eight.count(2), 8);
+        eight.put(0, 8, 800);
+        eight.run(1);
+        s.due("count(2) behind a back", eight.count(2), 7);
         s.says("3 for the reason for which it stopped");
-        int[][] rows = {{0, 1}, {316, 2}, {464, 3}, {800, 5}};
-        for (int[] row : rows) {
-            FarBanks z = at(5, row[0]);
-            z.lock(1, true);
-            z.set(1);
-            z.run(1);
-            s.due("count(3) of " + row[0], z.count(3), row[1]);
+        for (int reason = 1; reason <= 6; reason++) {
+            s.due("count(3)", Told.stopped(reason).count(3), reason);
         }
-        FarBanks calls = at(0, 700);
-        calls.run(9);
-        s.due("count(3) of a ninth call", calls.count(3), 4);
-        s.due("count(3) out of the windows", y.count(3), 6);
         s.says("(0 if it runs),");
         s.due("count(3)", x.count(3), 0);
         s.due("count(3) with eight frames", withEightFrames().count(3), 0);

@@ -248,6 +248,11 @@ final class BanksSentences {
         fault("load5", 4);
         fault("load  5", 5);
         fault("load\t5", 4);
+        fault("loa 5", 3);
+        fault("sho 1 2", 3);
+        fault("show  3", 5);
+        fault("show 3  ", 7);
+        fault("call  3", 5);
         fault("load 5 ", 6);
         fault("call 79", 6);
         fault("call 7  9", 7);

@@ -11,7 +11,6 @@ final class BanksSentences {
 
     static void test(Sentences sentences) {
         BanksSentences banks = new BanksSentences(sentences);
-        banks.calls();
         banks.cells();
         banks.numbersOfCells();
         banks.commonPart();
@@ -26,18 +25,6 @@ final class BanksSentences {
         banks.words();
         banks.numbers();
         banks.faults();
-    }
-
-    private void calls() {
-        s.section("## What it is");
-        s.says("An object is used for at most 512 calls after it has been made");
-        FarBanks x = new FarBanks();
-        x.put(0, 0, 400);
-        for (int call = 2; call <= 510; call++) {
-            s.due("call " + call + ", run(999)", x.run(999), 999);
-        }
-        s.due("call 511, undo()", x.undo(), 3);
-        s.due("call 512, count(4)", x.count(4), 508 * 999);
     }
 
     private void cells() {

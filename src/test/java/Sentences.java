@@ -6,8 +6,8 @@ import java.util.regex.Matcher;
 import java.util.regex.Pattern;
 
 /**
- * Comparisons, each under the words of the document that it tests. Words of the terms and the promises
- * that no test says, words that the document does not have, and words that nothing compares are told as wrong.
+ * Comparisons, each under the words of the document that it tests. Words that no test says, words that
+ * the document does not have, and words that nothing compares are told as wrong.
  */
 final class Sentences extends Check {
     private static final Path DOCUMENT = Path.of("../shared/DOC.md");
@@ -76,7 +76,7 @@ final class Sentences extends Check {
         endSentence();
         promise("No test says");
         Matcher matcher = Pattern.compile("\\S.*").matcher(document);
-        matcher.region(document.indexOf("## Terms"), document.indexOf("## Not promised"));
+        matcher.region(document.indexOf("## What it is"), document.indexOf("## Not promised"));
         while (matcher.find()) {
             String left = unsaid(matcher.start(), matcher.end());
             holds(left, !left.matches("(?s).*\\w.*") || left.equals("## Terms"));

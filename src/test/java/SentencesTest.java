@@ -1,9 +1,10 @@
 import java.io.IOException;
 
-/** Every sentence of the document's terms and promises that names a boundary has comparisons of its own. */
+/** Every sentence of the document, from its first line to its last promise, has comparisons of its own. */
 final class SentencesTest {
-    public static void main(String[] args) throws IOException {
+    public static void main(String[] args) throws IOException, IllegalAccessException {
         Sentences sentences = new Sentences();
+        OverviewSentences.test(sentences);
         BanksSentences.test(sentences);
         MachineSentences.test(sentences);
         HistorySentences.test(sentences);
